@@ -1,8 +1,8 @@
 /**
  * Versions of a graph with columns, by the promises of DOC.md.
  *
- * Each VERSION holds all its ITEMS flat, beside the numbers of its CHUNKS: that costs no more room than
- * chunks that are shared in fact, since a VERSION's arrays are made once and serve every later GRAPH too.
+ * Each VERSION holds all its ITEMS flat, beside the numbers of its CHUNKS: the objects of all VERSIONS are made
+ * once and serve every later GRAPH too, so that no run of calls needs more room than 60 of them.
  */
 public final class VersionChunks {
     public static final int BAD = -1, NO = -2, FULL = -3, NONE = -99999999;
@@ -389,12 +389,12 @@ public final class VersionChunks {
         return made;
     }
 
+    /** Its ITEMS need no clearing: the object of VERSION 0 serves as that alone, and no VERSION ever changes. */
     private void makeFirst() {
         Version made = takeRoom();
         if (made == null) {
             return;
         }
-        made.clearItems();
         made.parentNumber = NONE;
         for (int k = 0; k < chunksEach; k++) {
             made.chunks[k] = nextChunk();
@@ -571,15 +571,6 @@ public final class VersionChunks {
 
         private long numberAt(int node, int column) {
             return numbers[node * COLUMNS + column];
-        }
-
-        private void clearItems() {
-            for (int node = 0; node < MOST_NODES; node++) {
-                arcs[node] = 0;
-            }
-            for (int i = 0; i < MOST_NODES * COLUMNS; i++) {
-                numbers[i] = 0;
-            }
         }
 
         private void copyItems(Version old) {

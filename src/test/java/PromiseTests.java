@@ -123,8 +123,9 @@ public final class PromiseTests {
         x.letGo(1);
         x.rows(0, 2);
         due("join(0, 2, 3)", x.join(0, 2, 3), -11);
+        x.letGo(3);
         due("graph(8, 65) BAD", x.graph(8, 65), BAD);
-        dueCounts(x, 7, 4, 3, 6, 6, 2, 1, 9);
+        dueCounts(x, 7, 4, 2, 6, 5, 2, 1, 9);
         due("at stays after BAD", x.at(2, 1, 5), 8);
 
         due("graph(8, 3)", x.graph(8, 3), 3);
@@ -134,6 +135,9 @@ public final class PromiseTests {
         due("was gone", x.was(0, 1), 0);
         due("conflict gone", x.conflict(0, 0), NONE);
         due("turn without rows", x.turn(0), NO);
+        due("the old VERSION 2 is no more", x.has(2, 0, 0), BAD);
+        due("nor is its PARENT", x.parent(2), BAD);
+        due("VERSION 1 is not yet", x.parent(1), BAD);
         due("put makes VERSION 1 anew", x.put(0, 7, 7), 1);
         due("it is not let go", x.has(1, 7, 7), 1);
         due("it has no old ARC", x.has(1, 6, 6), 0);
@@ -278,13 +282,17 @@ public final class PromiseTests {
             due("arc(4, " + k + ", 1)", x.arc(4, k, 1), want[k][1]);
         }
         due("arc(0, 0, 0)", x.arc(0, 0, 0), NONE);
+        x.put(0, 0, 0);
+        due("arc(5, 0, 0)", x.arc(5, 0, 0), 0);
+        due("arc(5, 0, 1)", x.arc(5, 0, 1), 0);
+        due("arc(5, 1, 1)", x.arc(5, 1, 1), NONE);
         due("arc(4, -1, 0)", x.arc(4, -1, 0), NONE);
         due("arc(4, LEAST, 1)", x.arc(4, LEAST, 1), NONE);
         due("arc(4, MOST, 1)", x.arc(4, MOST, 1), NONE);
         due("arc(4, 0, 2)", x.arc(4, 0, 2), BAD);
         due("arc(4, 0, -1)", x.arc(4, 0, -1), BAD);
         due("arc(4, 9, 2)", x.arc(4, 9, 2), BAD);
-        due("arc(5, 0, 0)", x.arc(5, 0, 0), BAD);
+        due("arc(6, 0, 0)", x.arc(6, 0, 0), BAD);
         due("arc(-1, 0, 0)", x.arc(-1, 0, 0), BAD);
     }
 
@@ -319,6 +327,7 @@ public final class PromiseTests {
         y.put(4, 0, 2);
         due("reach(5, 0, 3): the shorter way", y.reach(5, 0, 3), 2);
         y.put(5, 0, 0);
+        due("reach(6, 1, 0)", y.reach(6, 1, 0), 3);
         due("reach(6, 0, 3): an ARC to itself is no help", y.reach(6, 0, 3), 2);
     }
 
@@ -368,6 +377,10 @@ public final class PromiseTests {
         due("row(1, 1) of the latest", x.row(1, 1), NONE);
         x.rows(1, 1);
         due("row(0, 0) of the latest, without ROWS", x.row(0, 0), NONE);
+        x.rows(0, x.put(0, 0, 0));
+        due("row(0, 0) of the first ITEM", x.row(0, 0), 0);
+        due("row(0, 1) of the first ITEM", x.row(0, 1), 0);
+        due("was(0, 1) of the first ITEM", x.was(0, 1), 1);
     }
 
     private static void was() {
@@ -449,6 +462,10 @@ public final class PromiseTests {
         due("turn(7)", x.turn(7), BAD);
         due("turn(-1)", x.turn(-1), BAD);
         due("turn(LEAST)", x.turn(LEAST), BAD);
+        x.set(0, 0, 0, 6);
+        due("rows(4, 7)", x.rows(4, 7), 2);
+        due("turn(0): neither, in the first number", x.turn(0), NO);
+        due("rows(1, 2)", x.rows(1, 2), 1);
         fill(x);
         due("turn(1) when FULL", x.turn(1), FULL);
         due("turn(0) when FULL, neither", x.turn(0), NO);
