@@ -394,6 +394,7 @@ public final class ModelTests {
     private final int run;
     private final VersionChunks x = new VersionChunks();
     private final Model m = new Model();
+    private int calls = 0;
 
     private ModelTests(int run, int mostNodes) {
         this.run = run;
@@ -426,7 +427,9 @@ public final class ModelTests {
         return orWild(below(2 + (list == null ? 0 : list.size())));
     }
 
+    /** Each answer is one call on the object, of which it has 512. */
     private void due(String call, long got, long want) {
+        calls++;
         if (got != want) {
             wrong++;
             if (wrong < 40) {
@@ -437,7 +440,7 @@ public final class ModelTests {
 
     private void newGraph() {
         int n = orWild(1 + below(mostNodes));
-        int size = orWild(1 + below(Math.max(1, Math.min(n, 64))));
+        int size = orWild(1 + below(Math.max(1, Math.min(n + 2, 64))));
         due("graph(" + n + ", " + size + ")", x.graph(n, size), m.graph(n, size));
     }
 
@@ -522,44 +525,58 @@ public final class ModelTests {
         due("clock(" + t + ")", x.clock(t), m.clockTo(t));
     }
 
-    /** All that can be asked of the end, beyond what a run asks of one object: each ITEM and CHUNK. */
+    /** Each ITEM and CHUNK at the end, from some VERSION on, for as many calls as the object has left. */
     private void compareAll() {
-        for (int v = 0; v < m.versions.size(); v++) {
-            for (int node = 0; node < m.n; node++) {
-                for (int to = 0; to < m.n; to++) {
-                    due("at the end has(" + v + ", " + node + ", " + to + ")", x.has(v, node, to), m.has(v, node, to));
-                }
-                due("at the end at(" + v + ", 0, " + node + ")", x.at(v, 0, node), m.at(v, 0, node));
-                due("at the end at(" + v + ", 1, " + node + ")", x.at(v, 1, node), m.at(v, 1, node));
-                due("at the end chunk(" + v + ", " + node + ")", x.chunk(v, node), m.chunk(v, node));
-            }
-        }
         for (int what = 0; what < 8; what++) {
             due("at the end count(" + what + ")", x.count(what), m.count(what));
+        }
+        int ever = m.versions.size();
+        int first = below(Math.max(1, ever));
+        for (int i = 0; i < ever; i++) {
+            for (int node = 0; node < m.n && calls + m.n + 3 <= CALLS; node++) {
+                compareNode((first + i) % ever, node);
+            }
+        }
+    }
+
+    private void compareNode(int v, int node) {
+        for (int to = 0; to < m.n; to++) {
+            due("at the end has(" + v + ", " + node + ", " + to + ")", x.has(v, node, to), m.has(v, node, to));
+        }
+        due("at the end at(" + v + ", 0, " + node + ")", x.at(v, 0, node), m.at(v, 0, node));
+        due("at the end at(" + v + ", 1, " + node + ")", x.at(v, 1, node), m.at(v, 1, node));
+        due("at the end chunk(" + v + ", " + node + ")", x.chunk(v, node), m.chunk(v, node));
+    }
+
+    private void oneCall() {
+        int dice = below(200);
+        if (dice == 0 || calls == 1) {
+            newGraph();
+        } else if (dice < 60) {
+            makeOne();
+        } else if (dice < 120) {
+            askItems();
+        } else if (dice < 190) {
+            askOthers();
+        } else {
+            moveClock();
         }
     }
 
     private void go() {
-        for (int call = 0; call < CALLS; call++) {
-            int dice = below(200);
-            if (dice == 0 || call == 1) {
-                newGraph();
-            } else if (dice < 60) {
-                makeOne();
-            } else if (dice < 120) {
-                askItems();
-            } else if (dice < 190) {
-                askOthers();
-            } else {
-                moveClock();
-            }
+        // Every other run goes on to the last call that is promised; the others leave some to compare the end.
+        int end = run % 2 == 0 ? CALLS : CALLS / 2;
+        while (calls < end) {
+            oneCall();
         }
-        compareAll();
+        if (end < CALLS) {
+            compareAll();
+        }
     }
 
     public static void main(String[] args) {
-        for (int run = 0; run < 600; run++) {
-            new ModelTests(run, run % 20 == 0 ? 64 : 1 + run % 7).go();
+        for (int run = 0; run < 1200; run++) {
+            new ModelTests(run, run % 20 < 2 ? 64 : 1 + run % 7).go();
         }
         System.out.println(wrong == 0 ? "the model agrees" : wrong + " answers are not the model's");
         if (wrong != 0) {
