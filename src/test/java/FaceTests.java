@@ -37,23 +37,22 @@ public final class FaceTests {
         return method.getReturnType().getName() + " " + method.getName() + "(" + String.join(", ", parameters) + ")";
     }
 
+    private static boolean isPublicName(String name) {
+        return METHODS.stream().anyMatch(method -> method.contains(" " + name + "("));
+    }
+
     private static void checkMethods() {
         Set<String> found = new TreeSet<>();
-        Set<String> publicNames = new TreeSet<>();
         for (Method method : VersionChunks.class.getDeclaredMethods()) {
             if (Modifier.isPublic(method.getModifiers())) {
                 found.add(named(method));
-                publicNames.add(method.getName());
                 must(!Modifier.isStatic(method.getModifiers()), method.getName() + " is static");
             } else {
                 must(Modifier.isPrivate(method.getModifiers()), method.getName() + " is neither public nor private");
+                must(!isPublicName(method.getName()), "a private method bears the public name " + method.getName());
             }
         }
         must(found.equals(METHODS), "the public methods are " + found);
-        for (Method method : VersionChunks.class.getDeclaredMethods()) {
-            boolean twin = !Modifier.isPublic(method.getModifiers()) && publicNames.contains(method.getName());
-            must(!twin, "a private method bears the public name " + method.getName());
-        }
     }
 
     private static void checkFields() {
@@ -83,6 +82,28 @@ public final class FaceTests {
         }
     }
 
+    private static void checkRules() {
+        List<Class<?>> all = new ArrayList<>(List.of(VersionChunks.class.getDeclaredClasses()));
+        for (Class<?> inside : all) {
+            for (Method method : inside.getDeclaredMethods()) {
+                must(!isPublicName(method.getName()), method + " bears the name of a public one");
+            }
+        }
+        all.add(VersionChunks.class);
+        must(all.size() <= 12, "there are " + all.size() + " classes");
+        for (Class<?> each : all) {
+            int fields = 0;
+            for (Field field : each.getDeclaredFields()) {
+                fields += Modifier.isStatic(field.getModifiers()) ? 0 : 1;
+            }
+            must(fields <= 20, each.getName() + " has " + fields + " fields");
+            for (Method method : each.getDeclaredMethods()) {
+                must(!method.isSynthetic(), method + " was made for a lambda or an inner class");
+                must(method.getParameterCount() <= 7, method + " has too many parameters");
+            }
+        }
+    }
+
     private static void checkWords() throws IOException {
         String source = Files.readString(Path.of("src/main/java/VersionChunks.java"));
         String code = source.replaceAll("(?s)/\\*.*?\\*/", " ").replaceAll("//[^\n]*", " ");
@@ -97,6 +118,7 @@ public final class FaceTests {
         checkMethods();
         checkFields();
         checkClasses();
+        checkRules();
         checkWords();
         for (String fault : faults) {
             System.out.println("not as due: " + fault);
